@@ -1761,7 +1761,7 @@ public final class NoiseFields {
             for (int row = 0; row < many; row++) {
                 int wanted = books.lineLoud[0] - louds[row * MOST_FIELDS + field];
                 int fitting = wanted < 0 || wanted >= LOUDS ? NONE : chainHead[wanted];
-                while (fitting != NONE) {
+                for (int i = 0; i < HALF && fitting != NONE; i++) {
                     if (agree(row, fitting)) {
                         noteWay(row, fitting, ear);
                     }
