@@ -288,8 +288,8 @@ public final class RandomRuns {
         int q = what(16);
         int years = what(19) + 1;
         int w = what(2);
-        compare("blight", () -> x.blight(seed, q, years, w), () -> o.blight(seed, q, years, w));
         compare("span", () -> x.span(seed, many, q, years, w), () -> o.span(seed, many, q, years, w));
+        compare("blight", () -> x.blight(seed, q, years, w), () -> o.blight(seed, q, years, w));
     }
 
     private void askWould() {
@@ -332,6 +332,30 @@ public final class RandomRuns {
         askAll();
     }
 
+    /** Only what is planned, bred and foreseen, with laws to which neighbours and years matter. */
+    private void plan(int turns) {
+        tell(0, farmText());
+        for (int i = 0; i < turns; i++) {
+            String law = rarely(2) ? lawText(0) : "(" + lawText(3) + ")+near*" + below(9) + "/" + (1 + below(9)) + "-most[near,loud]+" + below(30);
+            tell(1, law.length() > 150 ? "near" : law);
+            tell(2, workText(0));
+            tell(3, bookText());
+            for (int what = 0; what <= 1; what++) {
+                int w = what;
+                compare("best " + w, () -> x.best(w), () -> o.best(w));
+                compare("ear " + w, () -> x.ear(w), () -> o.ear(w));
+                compare("heard " + w, () -> x.heard(w), () -> o.heard(w));
+                compare("against " + w, () -> x.against(0, w), () -> o.against(0, w));
+                compare("turnsOf " + w, () -> x.turnsOf(0, 3, w), () -> o.turnsOf(0, 3, w));
+                int told = setsText();
+                compare("sets " + told + " " + w, () -> x.sets(told, w), () -> o.sets(told, w));
+            }
+            askWhole(1);
+            askWhole(4);
+            askBlight();
+        }
+    }
+
     public static void main(String[] args) {
         int factor = args.length > 0 ? Integer.parseInt(args[0]) : 1;
         for (int i = 0; i < 600 * factor; i++) {
@@ -339,6 +363,12 @@ public final class RandomRuns {
         }
         for (int i = 0; i < 40 * factor; i++) {
             new RandomRuns(9000000 + i, 6).run(120, 4);
+        }
+        for (int i = 0; i < 300 * factor; i++) {
+            new RandomRuns(500000 + i, 2 + i % 3).plan(8);
+        }
+        for (int i = 0; i < 10 * factor; i++) {
+            new RandomRuns(700000 + i, 6).plan(3);
         }
         Check.end("RandomRuns");
     }
