@@ -130,7 +130,7 @@ public final class NoiseFields {
             return tape.kind - 10;
         }
         undoable = new Kept(world.now.clone(), undoable, null, null);
-        works.run();
+        works.runSteps(0, works.told, 0);
         refusedSteps = works.refused;
         return works.done;
     }
@@ -514,11 +514,11 @@ public final class NoiseFields {
         }
 
         void lay(byte[] taped) {
-            size = taped == null ? 0 : Math.min(taped.length, TAPE_BYTES);
-            if (taped == null) {
-                return;
+            size = 0;
+            if (taped != null && taped.length <= TAPE_BYTES) {
+                size = taped.length;
+                System.arraycopy(taped, 0, bytes, 0, size);
             }
-            System.arraycopy(taped, 0, bytes, 0, size);
         }
 
         /** The bytes stay where they are while the text is read, though the tape is empty from here on. */
@@ -559,7 +559,8 @@ public final class NoiseFields {
         }
 
         void pass(int sign) {
-            if (sign() == sign) {
+            skipBlanks();
+            if (at < end && bytes[at] == sign) {
                 at++;
             } else {
                 fail(MISPLACED, at);
@@ -839,17 +840,13 @@ public final class NoiseFields {
             } else if (open >= MOST_OPEN) {
                 text.fail(TOO_MANY, text.wordAt);
             } else {
-                readPair(text, open + 1);
+                text.pass('[');
+                readSum(text, open + 1);
+                text.pass(',');
+                readSum(text, open + 1);
+                text.pass(']');
                 put(least ? LEAST : MOST);
             }
-        }
-
-        private void readPair(Tape text, int open) {
-            text.pass('[');
-            readSum(text, open);
-            text.pass(',');
-            readSum(text, open);
-            text.pass(']');
         }
 
         private static int nameOf(Tape text) {
@@ -888,10 +885,6 @@ public final class NoiseFields {
             given[PRICE - NAMES] = price;
             given[NEAR - NAMES] = near;
             given[SAME - NAMES] = same;
-            return Math.max(0, Math.min(MOST_BALES, value()));
-        }
-
-        private int value() {
             int top = 0;
             for (int i = 0; i < size; i++) {
                 int part = code[i];
@@ -906,7 +899,7 @@ public final class NoiseFields {
                     values[top - 1] = joined(part, values[top - 1], values[top]);
                 }
             }
-            return values[0];
+            return values[0] < 0 ? 0 : values[0] > MOST_BALES ? MOST_BALES : values[0];
         }
 
         private static int joined(int sign, int a, int b) {
@@ -1105,6 +1098,7 @@ public final class NoiseFields {
         // The shortest step has more bytes than four.
         private static final int MOST_TOLD = WORK_BYTES / 4;
 
+        int told;
         int done;
         int refused;
         private final World world;
@@ -1112,7 +1106,6 @@ public final class NoiseFields {
         private final int[] firstNumber = new int[MOST_TOLD];
         // Of an again: behind its last step.
         private final int[] secondNumber = new int[MOST_TOLD];
-        private int told;
         private int begun;
 
         Work(World world) {
@@ -1121,6 +1114,9 @@ public final class NoiseFields {
 
         void readText(Tape text) {
             told = 0;
+            begun = 0;
+            done = 0;
+            refused = 0;
             readSteps(text, 0);
             if (text.more()) {
                 text.fail(MISPLACED, text.at);
@@ -1175,14 +1171,7 @@ public final class NoiseFields {
             }
         }
 
-        void run() {
-            begun = 0;
-            done = 0;
-            refused = 0;
-            runSteps(0, told, 0);
-        }
-
-        private void runSteps(int from, int to, int depth) {
+        void runSteps(int from, int to, int depth) {
             int at = from;
             while (at < to && begun < MOST_STEPS) {
                 begun++;
@@ -1206,26 +1195,23 @@ public final class NoiseFields {
         }
 
         private void runStep(int at) {
-            if (isDone(step[at], firstNumber[at], secondNumber[at])) {
-                done++;
-            } else {
-                refused++;
-            }
-        }
-
-        private boolean isDone(int what, int first, int second) {
-            switch (what) {
+            boolean could = true;
+            switch (step[at]) {
                 case SOW:
-                    world.sowIn(first, second);
-                    return true;
+                    world.sowIn(firstNumber[at], secondNumber[at]);
+                    break;
                 case CLEAR:
-                    return world.clearIn(first);
+                    could = world.clearIn(firstNumber[at]);
+                    break;
                 case SELL:
-                    return world.sellOf(first, second);
+                    could = world.sellOf(firstNumber[at], secondNumber[at]);
+                    break;
                 default:
                     world.endYear();
-                    return true;
+                    break;
             }
+            done += could ? 1 : 0;
+            refused += could ? 0 : 1;
         }
     }
 
@@ -1289,7 +1275,7 @@ public final class NoiseFields {
             if (fields == 0) {
                 return;
             }
-            Arrays.fill(gains, NONE);
+            findGains();
             for (int field = fields - 1; field > 0; field--) {
                 for (int before = 0; before <= world.farm.sounds; before++) {
                     weighField(field, before);
@@ -1297,6 +1283,31 @@ public final class NoiseFields {
             }
             weighField(0, 0);
             spellSowing();
+        }
+
+        private static int gainPlaceOf(int field, int choice, int near) {
+            return (field * CHOICES + choice) * NEARS + near;
+        }
+
+        /** The law is asked once for each nearness that two neighbours can make, however many make it. */
+        private void findGains() {
+            Arrays.fill(gains, NONE);
+            for (int before = 0; before <= world.farm.sounds; before++) {
+                for (int next = before; next <= world.farm.sounds; next++) {
+                    findGainsBy(loudOfChoice(before) + loudOfChoice(next));
+                }
+            }
+        }
+
+        private void findGainsBy(int near) {
+            for (int field = 0; field < world.farm.fields; field++) {
+                for (int sound = 0; sound < world.farm.sounds; sound++) {
+                    int place = gainPlaceOf(field, sound + 1, near);
+                    if (gains[place] == NONE) {
+                        gains[place] = world.balesOf(field, sound, near) * world.farm.price[sound];
+                    }
+                }
+            }
         }
 
         private void weighField(int field, int before) {
@@ -1327,16 +1338,9 @@ public final class NoiseFields {
         }
 
         private int penceWith(int field, int before, int here, int next) {
-            int own = here == 0 ? 0 : gainOf(field, here, loudOfChoice(before) + loudOfChoice(next));
+            int near = loudOfChoice(before) + loudOfChoice(next);
+            int own = here == 0 ? 0 : gains[gainPlaceOf(field, here, near)];
             return field == world.farm.fields - 1 ? own : own + most[placeOf(field + 1, here, next)];
-        }
-
-        private int gainOf(int field, int choice, int near) {
-            int place = (field * CHOICES + choice) * NEARS + near;
-            if (gains[place] == NONE) {
-                gains[place] = world.balesOf(field, choice - 1, near) * world.farm.price[choice - 1];
-            }
-            return gains[place];
         }
 
         private void spellSowing() {
@@ -1450,7 +1454,7 @@ public final class NoiseFields {
 
         private void setFrom(int field, int spelt) {
             if (field >= world.farm.fields) {
-                if (!isDrowned(field - 1)) {
+                if (!isDrownedBy(field - 1, 0)) {
                     first = found == 0 ? spelt : first;
                     found++;
                 }
@@ -1466,10 +1470,6 @@ public final class NoiseFields {
                     left[choice]++;
                 }
             }
-        }
-
-        private boolean isDrowned(int field) {
-            return isDrownedBy(field, 0);
         }
 
         private boolean isDrownedBy(int field, int next) {

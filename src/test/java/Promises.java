@@ -434,6 +434,14 @@ public final class Promises {
         // 14 bales: the first takes 10, the second would need 5 of the 4 that are left
         due("as told", y.order(0, 4) * 1000 + y.order(1, 4) * 100 + y.order(2, 4) * 10 + y.order(3, 4), 1210);
         due("pence", y.told(4), 37);
+        NoiseFields z = Check.farmed("field 5;sound 1 1 1;" + times(5, "order 1 0 1 1;order 2 0 99 1;"));
+        Check.work(z, "sow 0 0;year;");
+        due("ten orders", z.sums(5) * 10 + z.sums(6), 50);
+        due("the tenth", z.order(9, 4) * 10 + z.order(9, 0), 2);
+        due("ahead", z.ahead(2), 5);
+        Check.work(z, "year;");
+        due("ten orders", z.sums(5) * 100 + z.sums(6) * 10 + z.order(9, 4), 552);
+        due("year, pence", z.told(3) * 10 + z.told(4), 35);
     }
 
     private static void promise13() {

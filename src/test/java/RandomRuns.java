@@ -1,8 +1,16 @@
+import java.lang.reflect.InvocationTargetException;
+import java.lang.reflect.Method;
+import java.util.Arrays;
+import java.util.Comparator;
+import java.util.List;
 import java.util.Random;
 
 /** Long runs of calls drawn from fixed seeds, each answer compared with the oracle's. */
 public final class RandomRuns {
     private static final String[] NAMES = {"soil", "rest", "same", "loud", "price", "near", "year", "hail", "field"};
+
+    private static final int[] WILD = {Integer.MIN_VALUE, Integer.MAX_VALUE, Integer.MIN_VALUE + 1, -1, -2, -100, 10, 11, 16, 17,
+        19, 20, 21, 40, 41, 63, 64, 65, 111111, 123456, 1111111, 2147483640, 65536};
 
     private final Random random;
     private final NoiseFields x = new NoiseFields();
@@ -51,7 +59,7 @@ public final class RandomRuns {
                 b.append(orderText(i + 1));
             }
         }
-        int orders = sounds == 0 ? 0 : below(6);
+        int orders = sounds == 0 ? 0 : rarely(8) ? 10 : below(6);
         for (int i = 0; i < orders; i++) {
             b.append(orderText(sounds));
         }
@@ -297,10 +305,47 @@ public final class RandomRuns {
         compare("would", () -> x.would(n[0], n[1], n[2], n[3], n[4], n[5]), () -> o.would(n[0], n[1], n[2], n[3], n[4], n[5]));
     }
 
+    /** Any call but those of texts, with arguments from far outside too. */
+    private void askWildly() {
+        Method[] all = Arrays.stream(NoiseFields.class.getMethods())
+            .filter(m -> m.getDeclaringClass() == NoiseFields.class)
+            .filter(m -> !List.of("feed", "farm", "law", "work", "book", "fault").contains(m.getName()))
+            .sorted(Comparator.comparing(Method::getName)).toArray(Method[]::new);
+        Method mine = all[below(all.length)];
+        boolean dear = List.of("best", "turnsOf", "sets", "heard", "sure", "ear").contains(mine.getName());
+        if (most > 4 && dear) {
+            return;
+        }
+        Object[] n = new Object[mine.getParameterCount()];
+        for (int i = 0; i < n.length; i++) {
+            n[i] = rarely(3) ? WILD[below(WILD.length)] : below(7);
+        }
+        try {
+            Method due = Oracle.class.getDeclaredMethod(mine.getName(), mine.getParameterTypes());
+            compare(mine.getName() + Arrays.toString(n), () -> call(mine, x, n), () -> call(due, o, n));
+        } catch (NoSuchMethodException e) {
+            throw new IllegalStateException(e);
+        }
+    }
+
+    private static long call(Method method, Object on, Object[] n) {
+        try {
+            return ((Number) method.invoke(on, n)).longValue();
+        } catch (InvocationTargetException e) {
+            if (e.getCause() instanceof RuntimeException) {
+                throw (RuntimeException) e.getCause();
+            }
+            throw new IllegalStateException(e);
+        } catch (IllegalAccessException e) {
+            throw new IllegalStateException(e);
+        }
+    }
+
     private void run(int turns, int wholeEach) {
         tell(0, farmText());
         for (int i = 0; i < turns; i++) {
             int kind = below(20);
+            askWildly();
             if (kind == 0 && rarely(3)) {
                 tell(0, spoilt(farmText()));
             } else if (kind < 3) {
