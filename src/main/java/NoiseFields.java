@@ -1808,11 +1808,11 @@ public final class NoiseFields {
             if (ways == 0) {
                 return NONE;
             }
-            int kind = Integer.numberOfTrailingZeros(seen[field]);
-            if (seen[field] != 1 << kind || kindSize[kind] != 1) {
+            if (Integer.bitCount(seen[field]) != 1) {
                 return -3;
             }
-            return kind == 0 ? -2 : kindSound[kind];
+            int kind = Integer.bitCount(seen[field] - 1);
+            return kind == 0 ? -2 : kindSize[kind] == 1 ? kindSound[kind] : -3;
         }
 
         void findNext() {
