@@ -902,6 +902,33 @@ public final class Promises {
         Check.law(y, "hail * 7 + year");
         Check.work(y, "sow 0 0;year;year;year;year;");
         due("1, 2, 10, 4", y.sums(0), 17);
+        Check.work(y, "again 3[again 20[year;];];");
+        Check.law(y, "hail");
+        due("year 65", y.told(3) * 10 + y.yields(0, 0), 650);
+        Check.work(y, "year;year;");
+        due("hail does not come again", y.told(3) * 10 + y.yields(0, 0), 670);
+        fullFarm();
+    }
+
+    private static void fullFarm() {
+        NoiseFields x = Check.farmed(times(6, "field 9;") + "sound 1 1 1;sound 1 2 1;sound 1 3 1;sound 1 4 1;sound 1 5 1;"
+            + "sound 1 6 1;barn 99;spoil 4;" + times(10, "order 1 5 1 1;"));
+        Check.law(x, "10 + field");
+        Check.work(x, "sow 0 0;sow 1 1;sow 2 2;sow 3 3;sow 4 4;sow 5 5;year;");
+        for (int i = 0; i < 6; i++) {
+            // 10 to 15 grown, of the last 10 delivered; half is spoilt
+            int grown = 10 + i;
+            int left = i == 5 ? 5 : grown;
+            due("grown " + i, x.sound(i, 4), grown);
+            due("left " + i, x.sound(i, 3), left - left / 2);
+            due("spoilt " + i, x.sound(i, 6), left / 2);
+            due("sold, lost " + i, x.sound(i, 5) * 100 + x.sound(i, 7), 0);
+            due("delivered " + i, x.sound(i, 8), i == 5 ? 10 : 0);
+            due("near " + i, x.field(i, 4), (i > 0 ? i : 0) + (i < 5 ? i + 2 : 0));
+            due("soil, rest " + i, x.field(i, 0) * 10 + x.field(i, 1), 80);
+            due("sown, last " + i, x.field(i, 2) * 10 + x.field(i, 3), i * 11);
+        }
+        due("year, pence", x.told(3) * 100 + x.told(4), 210);
     }
 
     public static void main(String[] args) {

@@ -17,8 +17,10 @@ public final class RandomRuns {
     private final Oracle o = new Oracle();
     private final String name;
     private final int most;
+    private final boolean full;
 
-    private RandomRuns(long seed, int most) {
+    private RandomRuns(long seed, int most, boolean full) {
+        this.full = full;
         random = new Random(seed);
         name = "seed " + seed;
         this.most = most;
@@ -44,8 +46,8 @@ public final class RandomRuns {
 
     private String farmText() {
         StringBuilder b = new StringBuilder();
-        int fields = below(most + 1);
-        int sounds = below(most + 1);
+        int fields = full ? 6 : below(most + 1);
+        int sounds = full ? 6 : below(most + 1);
         if (rarely(25)) {
             fields = 7;
         }
@@ -404,16 +406,19 @@ public final class RandomRuns {
     public static void main(String[] args) {
         int factor = args.length > 0 ? Integer.parseInt(args[0]) : 1;
         for (int i = 0; i < 600 * factor; i++) {
-            new RandomRuns(1000 + i, 1 + i % 4).run(120, 1);
+            new RandomRuns(1000 + i, 1 + i % 4, false).run(120, 1);
         }
         for (int i = 0; i < 40 * factor; i++) {
-            new RandomRuns(9000000 + i, 6).run(120, 4);
+            new RandomRuns(9000000 + i, 6, false).run(120, 4);
+        }
+        for (int i = 0; i < 100 * factor; i++) {
+            new RandomRuns(300000 + i, 6, true).run(120, 60);
         }
         for (int i = 0; i < 300 * factor; i++) {
-            new RandomRuns(500000 + i, 2 + i % 3).plan(8);
+            new RandomRuns(500000 + i, 2 + i % 3, false).plan(8);
         }
         for (int i = 0; i < 10 * factor; i++) {
-            new RandomRuns(700000 + i, 6).plan(3);
+            new RandomRuns(700000 + i, 6, true).plan(3);
         }
         Check.end("RandomRuns");
     }
