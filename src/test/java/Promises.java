@@ -226,6 +226,8 @@ public final class Promises {
         Check.refused("151 bytes", () -> x.law(151));
         due("150 bytes", x.law(150), 1);
         Check.refused("an empty tape", () -> x.law(1));
+        Check.feed(x, "(((((((");
+        due("what is behind the text is not read", x.law(6) * 10 + x.fault(), -84);
         due("status", x.status(1), 2);
     }
 
@@ -898,6 +900,11 @@ public final class Promises {
         due("held", x.sound(0, 3) * 100 + x.sound(1, 3), 1003);
         due("soil", x.field(0, 0) * 100 + x.field(1, 0) * 10 + x.field(2, 0), 888);
         due("stays sown", x.field(0, 2) * 100 + x.field(1, 2) * 10 + x.field(2, 2), 10);
+        NoiseFields z = Check.farmed("field 9;sound 1 1 1;hail 1;hail 40;");
+        Check.law(z, "hail");
+        due("hail in year 1", z.yields(0, 0), 1);
+        Check.work(z, "again 19[year;];again 20[year;];");
+        due("hail in year 40", z.told(3) * 10 + z.yields(0, 0), 401);
         NoiseFields y = Check.farmed("field 9;sound 1 1 1;hail 3;");
         Check.law(y, "hail * 7 + year");
         Check.work(y, "sow 0 0;year;year;year;year;");
