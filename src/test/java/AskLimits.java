@@ -44,12 +44,18 @@ public final class AskLimits {
         best(SIX_FIELDS + "sound 1 1 1;sound 1 1 1;sound 1 1 1;sound 1 1 1;sound 1 1 1;sound 1 1 2;", "field + 1", 42, 666666);
         best("field 1;field 1;field 1;sound 1 1 1;sound 1 2 1;", "field - 1", 1, 1);
         best("field 1;field 1;field 1;sound 1 1 1;sound 1 2 1;", "1 - field", 1, 100);
+        best("field 1;field 1;field 1;sound 1 9 1;sound 1 9 1;", "near + 1", 39, 111);
+        best("field 1;field 1;field 1;sound 1 9 1;sound 1 8 1;sound 1 1 1;", "near + 1", 39, 111);
+        // only 10 near gives a bale: 5 and 5 come ahead of 1 and 9; what is last hangs on what is first
+        best("field 1;field 1;field 1;sound 1 5 1;sound 1 1 1;sound 1 9 1;", "1 - (near - 10) * (near - 10)", 1, 111);
+        best("field 1;field 1;field 1;sound 1 9 1;sound 1 1 1;sound 1 5 1;", "1 - (near - 10) * (near - 10)", 1, 112);
         // this YEAR: rest, same, hail as they are
         NoiseFields x = lawful("field 5;field 5;sound 1 1 1;sound 1 1 1;hail 2;", "rest * 10 + same * 3 + hail * 2 + year");
         Check.work(x, "sow 0 1;year;");
         due("same, hail, the second year", x.best(0), 7 + 94);
         due("the sound of last year, the first of alike ones", x.best(1), 21);
         due("what is sown is nothing to it", Check.work(x, "sow 1 1;clear 0;") * 100 + x.best(1), 221);
+        due("a farm without fields", x.farm(0) * 100 + x.best(0) * 10 + x.best(1), 0);
     }
 
     private static void turns(String farm, String law, int n, int pence, int digits) {
@@ -79,6 +85,7 @@ public final class AskLimits {
         turns("field 5;sound 1 1 1;", "rest", 5, 9 + 3, 10001);
         turns("field 5;sound 1 1 1;", "9 - rest", 5, 9 * 4, 11111);
         turns("field 5;sound 1 1 1;", "9 - rest", 1, 0, 0);
+        turns("field 5;sound 1 1 1;sound 1 1 1;", "rest * 10", 3, 100, 101);
         // same: of the SOUND sown last, with empty YEARS between too
         turns("field 5;sound 1 1 1;sound 1 1 1;", "same", 5, 4, 11111);
         turns("field 5;sound 1 1 1;sound 1 1 1;", "1 - same", 3, 3, 121);
@@ -94,6 +101,24 @@ public final class AskLimits {
         due("years 39 to 43", x.told(3) * 10 + x.turnsOf(0, 5, 0), 393);
         due("years 39 to 43", x.turnsOf(0, 5, 1), 11000);
         otherFieldsTurns();
+        cornersOfTurns();
+    }
+
+    /** From the least SOIL and rest and the last of six SOUNDS, and from the most of all. */
+    private static void cornersOfTurns() {
+        String six = "sound 1 1 1;sound 1 1 1;sound 1 1 1;sound 1 1 1;sound 1 1 1;sound 1 1 1;";
+        NoiseFields x = lawful("field 0;" + six, "soil * 10 + rest + same * 5");
+        Check.work(x, "sow 0 5;year;");
+        due("soil, rest, last", x.field(0, 0) * 100 + x.field(0, 1) * 10 + x.field(0, 3), 5);
+        due("one year", x.turnsOf(0, 1, 0) * 10 + x.turnsOf(0, 1, 1), 56);
+        // four empty YEARS: 40 + 4 + 5; three: 30 + 3 + 5 and 20 + 5
+        due("five years", x.turnsOf(0, 5, 0) * 100000 + x.turnsOf(0, 5, 1), 6300066);
+        Check.work(x, "clear 0;again 9[year;];");
+        due("soil, rest, last", x.field(0, 0) * 100 + x.field(0, 1) * 10 + x.field(0, 3), 995);
+        // 90 + 9 + 5 is cut to 99, which the first sound gives too; then 85, 75, 65, 55
+        due("one year", x.turnsOf(0, 1, 0) * 10 + x.turnsOf(0, 1, 1), 991);
+        due("five years", x.turnsOf(0, 5, 0), 99 + 85 + 75 + 65 + 55);
+        due("five years", x.turnsOf(0, 5, 1), 11111);
     }
 
     /** Of a FIELD that is not the first: its own SOIL, rest, last, number; others stay sown as they are. */
@@ -188,6 +213,9 @@ public final class AskLimits {
         NoiseFields all = Check.farmed("sound 1 1 1;sound 2 1 1;sound 4 1 1;sound 8 1 1;sound 16 1 1;sound 32 1 1;");
         due("all", all.rows(64), -1);
         due("all at three", all.stable() * 10 + all.generation(63), 33);
+        due("another farm", Check.farm(any, "sound 1 1 1;cross 1;") * 10 + any.stable(), 0);
+        due("all again", Check.farm(any, "sound 5 1 1;sound 3 1 1;") * 10 + any.stable(), 1);
+        due("a farm without sounds", any.farm(0) * 10 + any.stable(), 0);
         for (int wrong : new int[] {-1, 64, LEAST, MOST}) {
             Check.refused("generation of " + wrong, () -> all.generation(wrong));
             Check.refused("crossing of " + wrong, () -> all.crossing(wrong, 0));
@@ -276,20 +304,33 @@ public final class AskLimits {
         Check.book(same, "1 30;");
         due("two ways", same.heard(0) * 100 + same.ear(0) * 10 + same.ear(1), 201);
         NoiseFields mid = Check.farmed("field 1;field 1;field 1;sound 1 1 1;sound 1 2 1;sound 1 3 1;");
-        Check.book(mid, "0 120;");
-        due("ways of 120", mid.heard(0), waysOf(mid, "0 120;"));
         Check.book(mid, "0 0;");
         due("nothing to tell apart", mid.ear(0) * 10 + mid.ear(1), 1);
+        // worked out by trying all ways elsewhere
+        ear(2, "9 9", "", 9, 0, 4);
+        ear(3, "1 2 3", "", 64, 0, 4);
+        ear(4, "1 2 3", "", 256, 0, 8);
+        ear(5, "1 4", "", 243, 0, 4);
+        ear(6, "1 2 3 4 5 9", "", 117649, 0, 416);
+        ear(6, "9 9 9 9 9 9", "", 117649, 0, 46656);
+        ear(4, "3 6", "0 360;", 3, 1, 1);
+        ear(5, "1 2", "2 120;", 13, 0, 1);
+        ear(6, "1", "0 60;", 2, 1, 1);
+        ear(6, "2 3", "3 180;", 16, 0, 1);
+        ear(6, "1 2 3", "0 120;", 20, 1, 1);
     }
 
-    /** 60, 30 and 20 times 0 to 3 that are 120 together, counted. */
-    private static int waysOf(NoiseFields x, String book) {
-        int ways = 0;
-        for (int i = 0; i < 64; i++) {
-            ways += 60 * (i / 16) + 30 * (i / 4 % 4) + 20 * (i % 4) == 120 ? 1 : 0;
+    private static void ear(int fields, String louds, String book, int ways, int field, int left) {
+        StringBuilder farm = new StringBuilder("field 1;".repeat(fields));
+        for (String loud : louds.split(" ")) {
+            farm.append("sound 1 ").append(loud).append(" 1;");
         }
-        due("book " + book, Check.book(x, book), 1);
-        return ways;
+        NoiseFields x = Check.farmed(farm.toString());
+        Check.book(x, book);
+        String what = fields + " fields, sounds " + louds + ", book " + book;
+        due("ear by " + what, x.ear(0), field);
+        due("left by " + what, x.ear(1), left);
+        due("ways by " + what, x.heard(0), ways);
     }
 
     private static void against(String farm, String law, int rests, int first) {
@@ -375,6 +416,9 @@ public final class AskLimits {
         due("seed of the most", x.blight(MOST, 1 + drawn(MOST), 1, 2) * 10 + x.blight(MOST, drawn(MOST), 1, 2), 10);
         due("seed of the least", x.blight(LEAST, 1 + drawn(LEAST), 1, 2) * 10 + x.blight(LEAST, drawn(LEAST), 1, 2), 10);
         due("nothing stays changed", x.told(3) * 100 + x.told(5) * 10 + x.order(0, 4), 100);
+        Check.law(x, "7");
+        due("a span ahead of a blight", x.span(1, 20, 0, 2, 2), 20 * 2 * 7);
+        Check.law(x, "10");
         blightYears();
         spans(x);
     }

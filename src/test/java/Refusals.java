@@ -299,7 +299,9 @@ public final class Refusals {
         x.image();
         String then = Whole.of(x);
         due("refused", x.told(7), 2);
-        Check.work(x, "");
+        x.work(0);
+        Check.work(x, "clear 1;");
+        due("refused then", x.told(7), 1);
         Check.missing("a refusal", () -> x.loud(9));
         due("restore", x.restore(), 2);
         Check.same("as it was", Whole.of(x), then.replace("told7=2", "told7=0").replace("count0=3", "count0=2"));
@@ -319,6 +321,23 @@ public final class Refusals {
         due("a text with a fault is no work", x.told(7), 1);
         Check.work(x, "year;");
         due("none refused", x.told(7), 0);
+    }
+
+    /** An IMAGE is of all but the LAW and the BOOK, so of the TAPE too, empty or full. */
+    private static void restoredTapes() {
+        NoiseFields x = worked();
+        Check.feed(x, "field 1;field 2;    " + " ".repeat(580));
+        due("a full tape", x.image() * 1000 + x.count(1), 3600);
+        x.work(0);
+        due("an empty one", x.count(1), 0);
+        due("full again", x.restore() * 1000 + x.count(1), 2600);
+        due("no room", x.feed(0, 0, 0, 0, 0), -1);
+        due("its bytes", x.farm(600) * 10 + x.field(1, 0), 22);
+        NoiseFields y = worked();
+        y.image();
+        Check.feed(y, "field 1;");
+        due("empty again", y.restore() * 1000 + y.count(1), 2000);
+        due("undo leaves it", y.feed(0, 0, 0, 0, 0) * 100 + y.undo() * 10 + y.count(1), 2040);
     }
 
     private static void counts() {
@@ -347,6 +366,7 @@ public final class Refusals {
         twentyWorks();
         images();
         restored();
+        restoredTapes();
         counts();
         Check.end("Refusals");
     }

@@ -118,6 +118,11 @@ public final class YearLimits {
         due("first and last", y.sound(0, 4), 35 + 25);
         due("between", y.sound(1, 4), 62);
         due("soil then", y.field(0, 0) * 100 + y.field(1, 0) * 10 + y.field(2, 0), 251);
+        NoiseFields full = lawful("field 1;field 2;field 3;field 4;field 5;field 9;sound 1 1 1;", "1", "year;");
+        for (int field = 0; field < 6; field++) {
+            due("six empty ones, soil of " + field, full.field(field, 0), field == 5 ? 9 : field + 2);
+            due("six empty ones, rest, sown, last of " + field, full.field(field, 1) * 100 + full.field(field, 2) * 10 + full.field(field, 3), 889);
+        }
         // sown and cleared within a YEAR is not sown at its end
         NoiseFields z = lawful("field 3;sound 1 1 1;", "5", "sow 0 0;clear 0;year;");
         due("not sown", z.field(0, 0) * 1000 + z.field(0, 1) * 100 + z.sums(0) * 10 + z.field(0, 3), 4899);
@@ -232,6 +237,13 @@ public final class YearLimits {
         Check.work(x, "year;");
         due("year 40 over", x.told(3) * 100 + x.order(4, 4) * 10 + x.told(4), 4122);
         due("delivered", x.sums(4) * 100 + x.sums(5) * 10 + x.sums(6), 2132);
+        due("those that failed are not ahead", x.ahead(2) * 10 + x.ahead(1), 0);
+        // as many as can be, all of the last of six sounds
+        NoiseFields six = lawful("field 5;" + times(6, "sound 1 1 1;") + times(9, "order 1 5 1 2;") + "order 1 5 2 2;", "10", "sow 0 5;year;");
+        for (int order = 0; order < 10; order++) {
+            due("order " + order, six.order(order, 4), order < 9 ? 1 : 2);
+        }
+        due("delivered", six.sound(5, 8) * 100 + six.told(4), 918);
         // LOST ones are not there; ORDERS come ahead of what is spoilt
         NoiseFields y = lawful("field 5;sound 1 1 1;order 1 0 9 5;order 1 0 8 6;barn 8;spoil 8;", "10", "sow 0 0;year;");
         due("9 of 8, 8 of 8", y.order(0, 4) * 10 + y.order(1, 4), 21);
