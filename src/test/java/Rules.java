@@ -7,14 +7,12 @@ import java.util.ArrayList;
 import java.util.Arrays;
 import java.util.List;
 import java.util.TreeSet;
+import java.util.regex.Matcher;
+import java.util.regex.Pattern;
+import java.util.stream.Collectors;
 
 /** The rules of LANGUAGE.md that can be seen from the text and the face of the class. */
 public final class Rules {
-    private static final String[] FACE = {"int feed 5", "int farm 1", "int law 1", "int work 1", "int book 1", "int fault 0",
-        "int undo 0", "int told 1", "int field 2", "int sound 2", "int order 2", "int yields 2", "int would 6", "int loud 1",
-        "int drowned 0", "int ahead 1", "int best 1", "int turnsOf 3", "int sets 2", "int crossing 2", "int generation 1",
-        "long rows 1", "int stable 0", "int heard 1", "int sure 1", "int ear 1", "int against 2", "int keeps 2",
-        "int blight 4", "int span 5", "int sums 1", "int image 0", "int restore 0", "int status 1", "int count 1"};
     private static final String[] FORBIDDEN = {"->", "::", "synchronized", "finally", "assert", "instanceof", "catch", "Exact",
         "protected", "static {", "getMessage", "System.out", "Random", "System.nano", "@", "double", "float", "package ",
         "Integer.MAX", "String.format", "equals("};
@@ -26,7 +24,26 @@ public final class Rules {
         Check.due(what, fine ? 1 : 0, 1);
     }
 
-    private static void face() {
+    /** The face as the document writes it: what is answered, the name, the arguments' types, what is thrown. */
+    private static TreeSet<String> dueFace() throws Exception {
+        TreeSet<String> due = new TreeSet<>();
+        Pattern member = Pattern.compile(" *public (int|long) (\\w+)\\(([^)]*)\\)(?: throws ([^;]*))?;");
+        for (String line : Files.readAllLines(Path.of("../shared/DOC.md"))) {
+            Matcher found = member.matcher(line);
+            if (found.matches()) {
+                String types = found.group(3).replaceAll(" \\w+(,|$)", "$1");
+                due.add(found.group(1) + " " + found.group(2) + "(" + types + ") " + (found.group(4) == null ? "" : found.group(4)));
+            }
+        }
+        holds("the document has a face", due.size() == 35);
+        return due;
+    }
+
+    private static String listed(Class<?>[] types) {
+        return Arrays.stream(types).map(Class::getSimpleName).collect(Collectors.joining(", "));
+    }
+
+    private static void face() throws Exception {
         TreeSet<String> has = new TreeSet<>();
         TreeSet<String> names = new TreeSet<>();
         for (Method m : NoiseFields.class.getDeclaredMethods()) {
@@ -34,10 +51,13 @@ public final class Rules {
                 continue;
             }
             holds(m + " is public", Modifier.isPublic(m.getModifiers()));
-            has.add(m.getReturnType() + " " + m.getName() + " " + m.getParameterCount());
+            has.add(m.getReturnType() + " " + m.getName() + "(" + listed(m.getParameterTypes()) + ") " + listed(m.getExceptionTypes()));
             names.add(m.getName());
         }
-        Check.same("the face", has.toString(), new TreeSet<>(Arrays.asList(FACE)).toString());
+        Check.same("the face", has.toString(), dueFace().toString());
+        holds("the class is public and final", NoiseFields.class.getModifiers() == (Modifier.PUBLIC | Modifier.FINAL));
+        holds("one constructor, without arguments", NoiseFields.class.getDeclaredConstructors().length == 1
+            && NoiseFields.class.getConstructors()[0].getParameterCount() == 0);
         List<Class<?>> all = new ArrayList<>(Arrays.asList(NoiseFields.class.getDeclaredClasses()));
         all.add(NoiseFields.class);
         holds("at most twelve classes, not " + all.size(), all.size() <= 12);

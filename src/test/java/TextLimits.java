@@ -209,6 +209,9 @@ public final class TextLimits {
         faulty('l', "least[((((((1", 3, 11);
         faulty('l', "least[1,((((((1", 3, 13);
         fine('l', "least[(((((1))))),(((((1)))))]", 1);
+        // a 7th that can't stand there at all: of one the least
+        faulty('l', times(6, "(") + "1(", 1, 7);
+        faulty('l', times(6, "(") + "1 least[", 1, 8);
         // what is closed is open no more
         fine('l', "((((((1))))))*((((((1))))))-least[(((((1))))),1]+((((((1))))))", 1);
         fine('w', times(6, "again 1[") + times(6, "];"), 0);

@@ -253,6 +253,34 @@ public final class YearLimits {
         due("of another sound", z.order(0, 4) * 100 + z.told(5), 210);
     }
 
+    /** Six of all, so that no count takes what is another one's. */
+    private static void six() {
+        NoiseFields x = lawful(times(6, "field 5;") + times(6, "sound 1 1 1;") + "order 1 5 1 9;order 1 5 99 9;order 1 0 2 9;barn 60;spoil 1;",
+            "8 + field * 2", "sow 0 0;sow 1 1;sow 2 2;sow 3 3;sow 4 4;sow 5 5;year;sell 5 1;sell 0 2;");
+        // 8, 10, 12, 14, 16, 18 are 78: the barn holds 60 of them, none of the last; so both ORDERS of it fail
+        int[] bales = {4, 9, 11, 13, 14, 0};
+        int[] sold = {2, 0, 0, 0, 0, 0};
+        int[] spoilt = {0, 1, 1, 1, 2, 0};
+        int[] lost = {0, 0, 0, 0, 0, 18};
+        int[] delivered = {2, 0, 0, 0, 0, 0};
+        for (int i = 0; i < 6; i++) {
+            int[] due = {bales[i], 8 + 2 * i, sold[i], spoilt[i], lost[i], delivered[i]};
+            for (int what = 3; what <= 8; what++) {
+                due("sound " + i + ", " + what, x.sound(i, what), due[what - 3]);
+            }
+        }
+        int[] sums = {78, 2, 5, 18, 2, 1, 2};
+        for (int what = 0; what <= 6; what++) {
+            due("sums " + what, x.sums(what), sums[what]);
+        }
+        due("bales, pence, refused", x.told(5) * 1000 + x.told(4) * 10 + x.told(7), 51111);
+        due("ahead", x.ahead(3) * 10 + x.ahead(2), 10 * (51 + 78 - 60));
+        NoiseFields y = lawful("field 5;" + times(6, "sound 1 1 1;") + "order 1 5 1 9;order 2 5 1 9;", "1", "sow 0 5;year;");
+        due("one delivered", y.sums(4) * 100 + y.sums(5) * 10 + y.sums(6), 110);
+        Check.work(y, "year;");
+        due("two delivered", y.sums(4) * 100 + y.sums(5) * 10 + y.sums(6), 220);
+    }
+
     private static void spoilt(int q, int bales, int want) {
         NoiseFields x = lawful("field 5;sound 1 1 1;barn 99;spoil " + q + ";", Integer.toString(bales), "sow 0 0;year;");
         due("spoilt of " + bales + " by " + q, x.sound(0, 6), want);
@@ -321,6 +349,7 @@ public final class YearLimits {
         yields();
         barns();
         orders();
+        six();
         spoil();
         loudness();
         drowned();
