@@ -55,7 +55,8 @@ public final class AskLimits {
         due("same, hail, the second year", x.best(0), 7 + 94);
         due("the sound of last year, the first of alike ones", x.best(1), 21);
         due("what is sown is nothing to it", Check.work(x, "sow 1 1;clear 0;") * 100 + x.best(1), 221);
-        due("a farm without fields", x.farm(0) * 100 + x.best(0) * 10 + x.best(1), 0);
+        due("a farm without fields", Check.farm(x, "sound 1 1 9;sound 1 1 9;") * 100 + x.best(0) * 10 + x.best(1), 0);
+        due("nor sounds", x.farm(0) * 100 + x.best(0) * 10 + x.best(1), 0);
     }
 
     private static void turns(String farm, String law, int n, int pence, int digits) {
@@ -113,6 +114,11 @@ public final class AskLimits {
         due("one year", x.turnsOf(0, 1, 0) * 10 + x.turnsOf(0, 1, 1), 56);
         // four empty YEARS: 40 + 4 + 5; three: 30 + 3 + 5 and 20 + 5
         due("five years", x.turnsOf(0, 5, 0) * 100000 + x.turnsOf(0, 5, 1), 6300066);
+        Check.work(x, "sow 0 0;year;");
+        due("soil, rest, last", x.field(0, 0) * 100 + x.field(0, 1) * 10 + x.field(0, 3), 0);
+        due("one year", x.turnsOf(0, 1, 0) * 10 + x.turnsOf(0, 1, 1), 51);
+        due("five years", x.turnsOf(0, 5, 0) * 100000 + x.turnsOf(0, 5, 1), 6300011);
+        x.undo();
         Check.work(x, "clear 0;again 9[year;];");
         due("soil, rest, last", x.field(0, 0) * 100 + x.field(0, 1) * 10 + x.field(0, 3), 995);
         // 90 + 9 + 5 is cut to 99, which the first sound gives too; then 85, 75, 65, 55
@@ -209,6 +215,9 @@ public final class AskLimits {
         due("stable", any.stable(), 3);
         due("behind the last but one", Long.bitCount(any.rows(2)) * 100 + Long.bitCount(any.rows(3)), 5663);
         due("nothing more", any.rows(64) - any.rows(3), 0);
+        // 1 and 4 by "up": 3, 6, 9, 12; of 6, which is new, and 4, which is not: 8, of 4 and 6 in this order 14
+        NoiseFields orders = Check.farmed("sound 1 1 1;sound 4 1 1;cross 4;");
+        due("both orders", orders.generation(6) * 1000 + orders.generation(8) * 100 + orders.generation(14) * 10 + orders.stable(), 1223);
         // all 64 rows come of these
         NoiseFields all = Check.farmed("sound 1 1 1;sound 2 1 1;sound 4 1 1;sound 8 1 1;sound 16 1 1;sound 32 1 1;");
         due("all", all.rows(64), -1);

@@ -122,16 +122,16 @@ public final class TextLimits {
 
     private static void hailValues() {
         NoiseFields x = fine('f', "field 9;sound 1 1 1;hail 40;hail 1;hail 40;", 1);
-        Check.law(x, "hail * 7");
+        Check.law(x, "hail * 6 + 1");
         due("hail in year 1", x.yields(0, 0), 7);
         Check.work(x, "year;");
-        due("none in year 2", x.yields(0, 0), 0);
+        due("none in year 2", x.yields(0, 0), 1);
         Check.work(x, "again 18[year;];again 19[year;];");
-        due("none in year 39", x.told(3) * 10 + x.yields(0, 0), 390);
+        due("none in year 39", x.told(3) * 10 + x.yields(0, 0), 391);
         Check.work(x, "year;");
         due("hail in year 40, told twice", x.told(3) * 10 + x.yields(0, 0), 407);
         Check.work(x, "year;");
-        due("none in year 41", x.told(3) * 10 + x.yields(0, 0), 410);
+        due("none in year 41", x.told(3) * 10 + x.yields(0, 0), 411);
     }
 
     private static void farmCounts() {
